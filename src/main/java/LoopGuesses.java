@@ -118,7 +118,7 @@ public final class LoopGuesses {
             case 5:
                 return view(setup).proved(active(setup));
             case 6:
-                return view(setup).safe();
+                return code.fulfilled(view(setup).reached());
             case 7:
                 return view(setup).invariants(active(setup)).flow.now.count();
             case 8:
@@ -236,13 +236,13 @@ public final class LoopGuesses {
             return BAD;
         }
         int active = active(setup);
-        view(setup);
-        int goal = Integer.bitCount(analysis.proved(active));
+        Analysis found = view(setup);
+        int goal = Integer.bitCount(found.proved(active));
         int best = active;
         // Upwards, so that the first set of its size is the smallest mask.
         for (int set = 0; set < GUESS_SETS; set++) {
             if ((set & ~active) == 0 && Integer.bitCount(set) < Integer.bitCount(best)
-                    && Integer.bitCount(analysis.proved(set)) == goal) {
+                    && Integer.bitCount(found.proved(set)) == goal) {
                 best = set;
             }
         }
@@ -291,7 +291,7 @@ public final class LoopGuesses {
             case 3:
                 return first < code.checks && last == (view(supposed).proved(active(supposed)) >> first & 1);
             case 4:
-                return first < code.checks && last == (view(supposed).safe() >> first & 1);
+                return first < code.checks && last == (code.fulfilled(view(supposed).reached()) >> first & 1);
             default:
                 return false;
         }
@@ -306,13 +306,13 @@ public final class LoopGuesses {
         if ((active & own) == 0) {
             return LATE;
         }
-        view(setup);
+        Analysis found = view(setup);
         int n = Integer.bitCount(active);
         int sum = 0;
         for (int set = 0; set < GUESS_SETS; set++) {
             if ((set & ~(active & ~own)) == 0) {
                 int ahead = Integer.bitCount(set);
-                int gain = Integer.bitCount(analysis.proved(set | own)) - Integer.bitCount(analysis.proved(set));
+                int gain = Integer.bitCount(found.proved(set | own)) - Integer.bitCount(found.proved(set));
                 sum += factorial(ahead) * factorial(n - 1 - ahead) * gain;
             }
         }
@@ -394,12 +394,12 @@ public final class LoopGuesses {
             return BAD;
         }
         int active = active(setup);
-        view(setup);
+        Analysis found = view(setup);
         int n = Integer.bitCount(active);
         int all = (1 << code.checks) - 1;
         int sum = 0;
         for (int set = 0; set < GUESS_SETS; set++) {
-            if ((set & ~active) == 0 && analysis.proved(set) == all) {
+            if ((set & ~active) == 0 && found.proved(set) == all) {
                 int left = Integer.bitCount(set);
                 sum += power(10 - x, left) * power(x, n - left);
             }
@@ -460,6 +460,7 @@ public final class LoopGuesses {
         return (1 << code.guesses) - 1 & ~of.off;
     }
 
+    /** What is known, or can be found, of the program with this setup. */
     private Analysis view(Setup of) {
         analysis.lookAt(of);
         return analysis;
@@ -480,15 +481,6 @@ public final class LoopGuesses {
                 row[i] = new States();
             }
             return row;
-        }
-
-        /** How far apart in a plane are two states whose values of b, or of c, differ by 1. */
-        private static int stride(int variable) {
-            return variable == 1 ? VALUES : 1;
-        }
-
-        private static long low(int variable) {
-            return variable == 1 ? LOW_B : LOW_C;
         }
 
         void clear() {
@@ -571,7 +563,11 @@ public final class LoopGuesses {
         }
 
         boolean isWithin(States other) {
-            return smallestOutside(other) == NONE;
+            long outside = 0;
+            for (int a = 0; a < VALUES; a++) {
+                outside |= planes[a] & ~other.planes[a];
+            }
+            return outside == 0;
         }
 
         private static boolean isState(int a, int b, int c) {
@@ -588,10 +584,12 @@ public final class LoopGuesses {
             }
         }
 
+        /** Leaves the states in which the variable has the value. */
         void meetValue(int variable, int value) {
+            long line = variable == 1 ? LOW_B << VALUES * value : LOW_C << value;
             for (int a = 0; a < VALUES; a++) {
                 if (variable != 0) {
-                    planes[a] &= low(variable) << value * stride(variable);
+                    planes[a] &= line;
                 } else if (a != value) {
                     planes[a] = 0;
                 }
@@ -601,12 +599,18 @@ public final class LoopGuesses {
         /** Adds to each state those that differ from it in the variable alone. */
         void free(int variable) {
             if (variable == 0) {
-                freeA();
+                long any = 0;
+                for (int a = 0; a < VALUES; a++) {
+                    any |= planes[a];
+                }
+                for (int a = 0; a < VALUES; a++) {
+                    planes[a] = any;
+                }
                 return;
             }
-            long low = low(variable);
-            int stride = stride(variable);
-            // The low states of the one variable are the steps of the other.
+            int stride = variable == 1 ? VALUES : 1;
+            long low = variable == 1 ? LOW_B : LOW_C;
+            // The states with c = 0 are a stride of b apart, and those with b = 0 a stride of c.
             long spread = variable == 1 ? LOW_C : LOW_B;
             for (int a = 0; a < VALUES; a++) {
                 long any = 0;
@@ -617,46 +621,29 @@ public final class LoopGuesses {
             }
         }
 
-        private void freeA() {
-            long any = 0;
-            for (int a = 0; a < VALUES; a++) {
-                any |= planes[a];
-            }
-            for (int a = 0; a < VALUES; a++) {
-                planes[a] = any;
-            }
-        }
-
         /**
          * Moves all states by one value of the variable, up or down; those that leave the range
          * are lost, but the states at the end 5 (or 0) stay there besides.
          */
         void shift(int variable, boolean up, boolean stayAt5) {
             if (variable == 0) {
-                shiftA(up, stayAt5);
+                int end = stayAt5 ? VALUES - 1 : 0;
+                long stay = planes[end];
+                for (int i = 1; i < VALUES; i++) {
+                    int to = up ? VALUES - i : i - 1;
+                    planes[to] = planes[up ? to - 1 : to + 1];
+                }
+                planes[up ? 0 : VALUES - 1] = 0;
+                planes[end] |= stay;
                 return;
             }
-            int stride = stride(variable);
-            long bottom = low(variable);
+            int stride = variable == 1 ? VALUES : 1;
+            long bottom = variable == 1 ? LOW_B : LOW_C;
             long top = bottom << (VALUES - 1) * stride;
             for (int a = 0; a < VALUES; a++) {
                 long moved = up ? (planes[a] & ~top) << stride : (planes[a] & ~bottom) >>> stride;
                 planes[a] = moved | planes[a] & (stayAt5 ? top : bottom);
             }
-        }
-
-        private void shiftA(boolean up, boolean stayAt5) {
-            int end = stayAt5 ? VALUES - 1 : 0;
-            long stay = planes[end];
-            for (int i = 1; i < VALUES; i++) {
-                if (up) {
-                    planes[VALUES - i] = planes[VALUES - i - 1];
-                } else {
-                    planes[i - 1] = planes[i];
-                }
-            }
-            planes[up ? 0 : VALUES - 1] = 0;
-            planes[end] |= stay;
         }
     }
 
@@ -1099,8 +1086,8 @@ public final class LoopGuesses {
         private final States[] atChoice = States.row(MAX_CHOICES);
         private final States[] atBar = States.row(MAX_CHOICES);
 
-        /** Finds the states that come to the places by a set of guesses for each loop. */
-        void follow(Code code, States begin, int[] given) {
+        /** Puts into each loop the states in which its guesses are true. */
+        void assign(Code code, int[] given) {
             for (int i = 0; i < MAX_LOOPS && i < given.length; i++) {
                 come[i].clear();
                 inside[i].fill();
@@ -1110,7 +1097,6 @@ public final class LoopGuesses {
                     }
                 }
             }
-            pass(code, begin, inside);
         }
 
         /** Finds the reached states: what is in a loop is what came to it, until nothing new comes. */
@@ -1125,7 +1111,7 @@ public final class LoopGuesses {
         }
 
         /** Goes once through the program; tells whether new states came to a loop. */
-        private boolean pass(Code code, States begin, States[] inLoops) {
+        boolean pass(Code code, States begin, States[] inLoops) {
             boolean grown = false;
             now.copy(begin);
             for (int i = 0; i < code.length; i++) {
@@ -1213,7 +1199,8 @@ public final class LoopGuesses {
             }
             boolean fewer = true;
             for (int round = 0; round < ROUNDS && fewer; round++) {
-                flow.follow(code, begin, given);
+                flow.assign(code, given);
+                flow.pass(code, begin, flow.inside);
                 fewer = false;
                 for (int loop = 0; loop < code.loops && loop < given.length; loop++) {
                     int wrong = falseGuesses(code, loop);
@@ -1558,17 +1545,14 @@ public final class LoopGuesses {
             return provedBy[active];
         }
 
-        int safe() {
-            return code.fulfilled(reached());
-        }
-
         /** The smallest of the guesses that is false somewhere if they are given to this loop, or NONE. */
         int firstFalse(int loop, int guesses, int active) {
             int[] others = invariants(active).given;
             for (int i = 0; i < trial.given.length && i < others.length; i++) {
                 trial.given[i] = i == loop ? guesses : others[i];
             }
-            trial.flow.follow(code, begin, trial.given);
+            trial.flow.assign(code, trial.given);
+            trial.flow.pass(code, begin, trial.flow.inside);
             int wrong = trial.falseGuesses(code, loop);
             return wrong == 0 ? NONE : Integer.numberOfTrailingZeros(wrong);
         }
