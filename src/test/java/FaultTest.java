@@ -26,7 +26,8 @@ public final class FaultTest {
 
     private static void wholePrograms() {
         for (String text : new String[] {"", "a=b", "b=b", "c=5", "a+", "b-", "c?", "@a<0", "!b>c", "(a=a)", "{|}",
-                "(a#1{b+|c-}b?)", "{(a<5a+)|{|}}", ";a<1", ";a=a;b#c", "a+;a>0"}) {
+                "(a#1{b+|c-}b?)", "{(a<5a+)|{|}}", "(a<1(a<1(a<1{{{|}|}|})))", "{|{|{|(a<1(a<1(a<1)))}}}",
+                ";a<1", ";a=a;b#c", "a+;a>0"}) {
             fault(text, NONE);
         }
     }
