@@ -2,6 +2,7 @@
 final class Testing {
     private static int asked = 0;
     private static int wrong = 0;
+    private static String sentence = "";
 
     private Testing() {
     }
@@ -10,8 +11,13 @@ final class Testing {
         asked++;
         if (got != want) {
             wrong++;
-            System.out.println(call + " answered " + got + ", due is " + want);
+            System.out.println(sentence + call + " answered " + got + ", due is " + want);
         }
+    }
+
+    /** The sentence of the document that the next answers are due by. */
+    static void under(String newSentence) {
+        sentence = "\"" + newSentence + "\": ";
     }
 
     static void writeAll(LoopGuesses x, String text) {
@@ -28,6 +34,12 @@ final class Testing {
             due("program() of " + text, x.fault(), LoopGuesses.NONE);
         }
         return x;
+    }
+
+    static void start(LoopGuesses x, int a, int b, int c) {
+        x.begin(0, a);
+        x.begin(1, b);
+        x.begin(2, c);
     }
 
     /** Ends the test, with the exit code 1 if an answer was wrong. */
