@@ -103,6 +103,9 @@ public final class BoundarySeenTest {
         due("not from five", seen("!a<5", 0, 0), 180);
         // It need not fail, if it can.
         due("by one of two sequences", seen("{a=0|}!a=0", 0, 1), 180);
+        due("by the first sequence", seen("{a=5|a=0}!a<5", 0, 1), 216);
+        due("by the second sequence", seen("{a=0|a=5}!a<5", 0, 1), 216);
+        due("by no sequence", seen("{a=0|a=1}!a<5", 0, 1), 0);
         due("by one of six values", seen("a?!a<5", 0, 1), 216);
         due("by no value", seen("a?@a<5!a<5", 0, 1), 0);
         // A check ahead lets no state pass that makes it fail.
@@ -112,6 +115,14 @@ public final class BoundarySeenTest {
         due("1 becomes 0, and 0 stays", seen("a-!a>0", 0, 1), 72);
         due("behind a loop without end", seen("(a=a)!a#a", 0, 1), 0);
         due("in a loop, after some rounds", seen("(a<5!a<4a+)", 0, 1), 180);
+        due("by the value of another variable", seen("a=b!a<5", 0, 1), 36);
+        // What has been found for one check is not left for the next.
+        LoopGuesses x = Testing.withProgram("(a<3a+{b=1|b=0})!b<1!c=c");
+        x.see(0, 1);
+        due("the first check can, from a < 3 or b > 0", x.which(0), 108 + 90);
+        x.unsee();
+        x.see(1, 1);
+        due("the second cannot", x.which(0), 0);
         // Not by the invariants: really a is 0 there.
         due("what is reached counts", seen("a=0(b<5b+)!a=0", 0, 1), 0);
     }

@@ -9,6 +9,7 @@ public final class BoundaryStatesTest {
         increase();
         decrease();
         sixStates();
+        longestPrograms();
         assumptions();
         checksThatFail();
         choices();
@@ -49,6 +50,10 @@ public final class BoundaryStatesTest {
         LoopGuesses x = Testing.withProgram(text);
         Testing.start(x, a, b, c);
         due(text + " from " + a + b + c + " to " + goal, x.judge(1, 6000 + goal), NONE);
+        String checked = text + "!a=" + goal / 100 + "!b=" + goal / 10 % 10 + "!c=" + goal % 10;
+        LoopGuesses y = Testing.withProgram(checked);
+        Testing.start(y, a, b, c);
+        due("a run of " + checked + " from " + a + b + c, y.drawn(1), 0);
     }
 
     // ---- states
@@ -137,6 +142,11 @@ public final class BoundaryStatesTest {
         atEnd("a?b?", 3, 3, 3, 36);
         atEnd("a?b?c?", 3, 3, 3, 216);
         atEnd("a?a=0", 3, 3, 3, 1);
+        for (int value = 0; value <= 5; value++) {
+            atEnd("a?", value, 3, 3, 6);
+            atEnd("b?", 3, value, 3, 6);
+            atEnd("c?", 3, 3, value, 6);
+        }
         LoopGuesses x = Testing.withProgram("b?");
         Testing.start(x, 3, 3, 3);
         for (int value = 0; value <= 9; value++) {
@@ -144,9 +154,37 @@ public final class BoundaryStatesTest {
         }
         goes("a=b", 1, 4, 2, 442);
         goes("a=a", 1, 4, 2, 142);
+        goes("a=c", 1, 4, 2, 242);
+        goes("b=a", 1, 4, 2, 112);
+        goes("b=c", 1, 4, 2, 122);
+        goes("c=a", 1, 4, 2, 141);
+        goes("c=b", 1, 4, 2, 144);
+        goes("c=0", 1, 4, 2, 140);
+        goes("c=5", 1, 4, 2, 145);
         atEnd("a=b", 6, 6, 6, 36);
         atEnd("a=5", 6, 6, 6, 36);
         atEnd("c=c", 6, 6, 6, 216);
+    }
+
+    /** As many statements, and as many terms, as a text has room for. */
+    private static void longestPrograms() {
+        Document.says("The text buffer holds at most 60 characters");
+        goes20("b=1" + "a=0".repeat(17) + "a=4c=5", 415);
+        goes20("b=1" + "a=0".repeat(14) + "a=1a=2a=3a=4c=5", 415);
+        goes20("b=2a=bc=a".repeat(6) + "a=5b=a", 552);
+        atEnd("@b=1" + "@a<4".repeat(13) + "@c=5", 6, 6, 6, 4);
+        atEnd("a+b+c+".repeat(10), 0, 0, 0, 1);
+        atEnd("a?b?c?".repeat(10), 0, 0, 0, 216);
+    }
+
+    private static void goes20(String text, int goal) {
+        LoopGuesses x = Testing.withProgram(text);
+        due("the characters of " + text, x.about(11), 60);
+        due("the statements of " + text, x.program(), 20);
+        due("by the invariants", x.about(7), 1);
+        due("really", x.about(8), 1);
+        due("the state", x.judge(1, 6000 + goal), NONE);
+        due("a run", x.drawn(20), 0);
     }
 
     private static void assumptions() {
