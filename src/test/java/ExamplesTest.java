@@ -1,11 +1,30 @@
-/** The four examples of the document, call by call. */
+import java.util.List;
+
+/** The four examples of the document, call by call: written out here, and as they stand there. */
 public final class ExamplesTest {
+    /** How many calls each example has. */
+    private static final int[] LENGTHS = {16, 16, 15, 16};
+
     public static void main(String[] args) {
+        asWritten();
         loopWithoutGuesses();
         choiceAndIncompleteGuess();
         noProgram();
         startValueAndObservation();
         Testing.end();
+    }
+
+    private static void asWritten() {
+        Document.says("Examples: Each of them begins with a new object; the results are given behind the calls.");
+        for (int number = 1; number <= LENGTHS.length; number++) {
+            List<String> calls = Document.example(number);
+            Testing.due("the calls of example " + number, calls.size(), LENGTHS[number - 1]);
+            LoopGuesses x = new LoopGuesses();
+            for (String call : calls) {
+                String[] sides = call.split(" = ");
+                Testing.due(number + ": " + sides[0], Calls.answer(x, sides[0]), Long.parseLong(sides[1]));
+            }
+        }
     }
 
     private static void writes(LoopGuesses x, int... letters) {
