@@ -110,10 +110,12 @@ public final class AskingTest {
             for (int i = 0; i < want.length; i++) {
                 want[i] = alone(text, change, QUESTIONS.get(i));
             }
-            for (String asked : QUESTIONS) {
+            for (int first = 0; first < want.length; first++) {
+                String asked = QUESTIONS.get(first);
                 LoopGuesses x = used(text);
                 Calls.answer(x, asked);
                 change(x, change);
+                same(text + ": " + asked + " ahead of " + change + " and behind it", x, asked, want[first]);
                 for (int i = 0; i < want.length; i++) {
                     String question = QUESTIONS.get(i);
                     same(text + ": " + question + " behind " + asked + " and " + change, x, question, want[i]);
